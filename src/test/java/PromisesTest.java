@@ -27,6 +27,7 @@ public final class PromisesTest {
         promise13Would();
         promise14SeaAt();
         promise15Best();
+        promise15BestOfFew();
         promise16GatesFor();
         promise17BestDay();
         promise18Share();
@@ -37,6 +38,7 @@ public final class PromisesTest {
         promise23FaultOfForm();
         promise23FaultOfState();
         promise24Play();
+        changesStartFromThePresent();
         farArguments();
         DUE.end();
     }
@@ -529,6 +531,31 @@ public final class PromisesTest {
         DUE.holds("some best number is between 0 and 6", between);
     }
 
+    /** States in which all shut, and just one turbine, are better than every other number. */
+    private static void promise15BestOfFew() {
+        int[][] rows = {{201, 1, -384, 2, 25, 3, 0, -107}, {213, 7, -476, 148, 137, 99, 0, -38599},
+            {249, 7, 163, 129, 124, 32, 1, -2450}};
+        for (int[] row : rows) {
+            LagoonGates x = at(row[0]);
+            x.turbines(6);
+            x.run(1);
+            x.undo();
+            x.gates(row[1]);
+            x.pump(row[2]);
+            x.set(0, row[3]);
+            x.set(1, row[4]);
+            DUE.is("best number by hand at " + row[0], bestByHand(x, row[5]), row[6]);
+            DUE.is("best(" + row[5] + ", 0) at " + row[0], x.best(row[5], 0), row[6]);
+            DUE.is("best(" + row[5] + ", 1) at " + row[0], x.best(row[5], 1), row[7]);
+        }
+        LagoonGates y = new LagoonGates();
+        y.turbines(6);
+        y.run(1);
+        // 2040 flow out, and 37960 of water are a level of -21.
+        DUE.is("head behind a tick", y.now(5), -322 + 21);
+        DUE.is("best(1, 1) behind energy made", y.best(1, 1), 6 * 301 * 301 / 100);
+    }
+
     private static int bestByHand(LagoonGates x, int ticks) {
         int found = -1;
         int most = 0;
@@ -560,6 +587,13 @@ public final class PromisesTest {
         DUE.is("gatesFor changes nothing", x.now(0) * 10 + x.now(8), 3);
         x.birds(0, 144);
         DUE.is("gatesFor(150, -400) in hours of birds", x.gatesFor(150, -400), 0);
+        LagoonGates y = new LagoonGates();
+        y.gates(8);
+        y.run(1);
+        // The level is -55, the head -267, and a gate lets 534 out.
+        DUE.is("gatesFor(1, -55) at the level -55", y.gatesFor(1, -55), 0);
+        DUE.is("gatesFor(1, 55) at the level -55", y.gatesFor(1, 55), 0);
+        DUE.is("gatesFor(1, -61) at the level -55", y.gatesFor(1, -61), 1);
     }
 
     private static void promise17BestDay() {
@@ -596,6 +630,13 @@ public final class PromisesTest {
             y.run(29);
             DUE.is("share() with the pump " + pump, y.share(), bitsOf(y.count(1), y.count(0)));
         }
+        LagoonGates one = at(18);
+        one.set(0, 1);
+        one.turbines(1);
+        // The head is -10, and 10 * 10 / 100 is made.
+        one.run(1);
+        DUE.is("made just 1", one.count(0), 1);
+        DUE.is("share() when just 1 was made", one.share(), 0);
         LagoonGates z = new LagoonGates();
         z.pump(500);
         z.set(1, 400);
@@ -840,6 +881,62 @@ public final class PromisesTest {
         }
         for (int what = 0; what <= 7; what++) {
             DUE.is("play() as against calls, count(" + what + ")", once.count(what), called.count(what));
+        }
+    }
+
+    /** What was tried, or refused, before a change has no part in it. */
+    private static void changesStartFromThePresent() {
+        for (int change = 0; change < 8; change++) {
+            LagoonGates x = new LagoonGates();
+            x.run(37);
+            x.gates(8);
+            x.run(1);
+            x.turbines(2);
+            type(x, "g3;t1;r200;g9;");
+            x.would(100, 0);
+            x.best(50, 0);
+            x.gatesFor(50, 0);
+            x.play();
+            x.clearText();
+            change(x, change);
+            // Silt of 108 came till now; one change alone is to be seen.
+            DUE.is("time, change " + change, x.now(0), change == 4 ? 39 : 38);
+            DUE.is("gates, change " + change, x.now(8), change == 0 ? 1 : 8);
+            DUE.is("turbines, change " + change, x.now(9), change == 1 ? 1 : 2);
+            DUE.is("pump, change " + change, x.now(10), change == 2 ? 1 : 0);
+            DUE.is("hour of birds, change " + change, x.now(11), change == 3 ? 1 : 0);
+            DUE.is("dredged, change " + change, x.count(4), change == 5 ? 1 : 0);
+            DUE.is("near, change " + change, x.count(21), change == 6 ? 1 : 40);
+            DUE.is("flowed in, change " + change, x.count(2), change == 4 ? 5440 + 18 * 267 : 5440);
+        }
+    }
+
+    private static void change(LagoonGates x, int change) {
+        switch (change) {
+            case 0:
+                x.gates(1);
+                break;
+            case 1:
+                x.turbines(1);
+                break;
+            case 2:
+                x.pump(1);
+                break;
+            case 3:
+                x.birds(38, 39);
+                break;
+            case 4:
+                x.run(1);
+                break;
+            case 5:
+                x.dredge(1);
+                break;
+            case 6:
+                x.set(1, 1);
+                break;
+            default:
+                x.play();
+                break;
         }
     }
 
