@@ -675,7 +675,6 @@ public final class LagoonGates {
         /** Reads the order at the place; if it is not of the form, the place is where it breaks off. */
         boolean readOrder() {
             kind = characterHere();
-            first = 0;
             second = 0;
             if (!isKind(kind)) {
                 return false;

@@ -16,6 +16,20 @@ final class Due {
         }
     }
 
+    /** Several answers of now(..), each what with what is due: what, due, what, due, .. */
+    void now(String when, LagoonGates x, int... rows) {
+        for (int i = 0; i < rows.length; i += 2) {
+            is("now(" + rows[i] + "), " + when, x.now(rows[i]), rows[i + 1]);
+        }
+    }
+
+    /** The answers of next(0), next(1) .. */
+    void next(String when, LagoonGates x, int... due) {
+        for (int what = 0; what < due.length; what++) {
+            is("next(" + what + "), " + when, x.next(what), due[what]);
+        }
+    }
+
     void holds(String what, boolean holds) {
         looked++;
         if (!holds) {

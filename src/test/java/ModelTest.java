@@ -1,7 +1,8 @@
-/** Runs of up to 512 calls, drawn from fixed seeds, each answer compared with PlainLagoon's. */
+/** Runs of 500 to 512 calls, drawn from fixed seeds, each answer compared with PlainLagoon's. */
 public final class ModelTest {
     private static final int RUNS = 700;
-    private static final int CALLS = 512;
+    // An object is used for 512 calls; a step of a run has up to 12.
+    private static final int CALLS = 500;
 
     private final LagoonGates lagoon = new LagoonGates();
     private final PlainLagoon plain = new PlainLagoon();
@@ -26,7 +27,7 @@ public final class ModelTest {
     }
 
     private void runAll() {
-        while (calls < CALLS && due.wrong() == 0) {
+        while (calls <= CALLS && due.wrong() == 0) {
             switch (draw(5)) {
                 case 0:
                     change();

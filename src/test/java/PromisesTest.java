@@ -43,26 +43,6 @@ public final class PromisesTest {
         DUE.end();
     }
 
-    private static void type(LagoonGates x, String orders) {
-        x.clearText();
-        for (int i = 0; i < orders.length(); i++) {
-            x.type(orders.charAt(i));
-        }
-    }
-
-    /** Lets all shut time pass up to a time. */
-    private static LagoonGates at(int time) {
-        LagoonGates x = new LagoonGates();
-        passTo(x, time);
-        return x;
-    }
-
-    private static void passTo(LagoonGates x, int time) {
-        while (x.now(0) < time) {
-            x.run(Math.min(300, time - x.now(0)));
-        }
-    }
-
     private static void promise1NewObject() {
         LagoonGates x = new LagoonGates();
         int[] now = {0, 0, 0, -340, 0, -340, 40000, 0, 0, 0, 0, 0, 340};
@@ -137,7 +117,7 @@ public final class PromisesTest {
             DUE.is("hour of birds at tick " + tick, x.now(11), hours[tick]);
             x.run(1);
         }
-        passTo(x, 144 + 3);
+        Lagoons.passTo(x, 144 + 3);
         DUE.is("hour of birds on the next day", x.now(11), 1);
         x.birds(4, 2);
         DUE.is("hour of birds if the former is above", x.now(11), 0);
@@ -170,7 +150,7 @@ public final class PromisesTest {
         DUE.is("run(200) as against 200 of run(1)", often.run(1), level);
         DUE.is("run answers the level", once.now(4), level);
 
-        LagoonGates late = at(9900);
+        LagoonGates late = Lagoons.at(9900);
         DUE.is("run(100) at 9900", late.run(100), LIMIT);
         DUE.is("run(301) at 9900", late.run(301), INVALID);
         DUE.is("time behind an error", late.now(0), 9900);
@@ -325,7 +305,7 @@ public final class PromisesTest {
         LagoonGates x = new LagoonGates();
         DUE.is("now(-1)", x.now(-1), INVALID);
         DUE.is("now(13)", x.now(13), INVALID);
-        passTo(x, 1008);
+        Lagoons.passTo(x, 1008);
         x.gates(7);
         x.turbines(5);
         x.pump(-33);
@@ -334,7 +314,7 @@ public final class PromisesTest {
         for (int what = 0; what < now.length; what++) {
             DUE.is("now(" + what + ") at 1008", x.now(what), now[what]);
         }
-        LagoonGates y = at(143);
+        LagoonGates y = Lagoons.at(143);
         DUE.is("now(1) at 143", y.now(1), 0);
         DUE.is("now(2) at 143", y.now(2), 143);
         y.run(1);
@@ -345,7 +325,7 @@ public final class PromisesTest {
         // Heights fall till day 7, rise till day 13, and start again.
         int[][] heights = {{6, 220}, {7, 200}, {8, 220}, {13, 320}, {14, 340}, {15, 320}, {21, 200}};
         for (int[] row : heights) {
-            DUE.is("height of day " + row[0], at(row[0] * 144).now(12), row[1]);
+            DUE.is("height of day " + row[0], Lagoons.at(row[0] * 144).now(12), row[1]);
         }
         LagoonGates z = new LagoonGates();
         z.gates(1);
@@ -383,7 +363,7 @@ public final class PromisesTest {
         DUE.is("record(0, 0)", x.record(0, 0), made);
         DUE.is("record(0, 1)", x.record(0, 1), used);
 
-        LagoonGates y = at(144);
+        LagoonGates y = Lagoons.at(144);
         DUE.is("record(1, 0) before its first tick", y.record(1, 0), NOT_FOUND);
         y.gates(1);
         int level = y.run(1);
@@ -396,7 +376,7 @@ public final class PromisesTest {
         z.gates(1);
         z.run(1);
         z.gates(0);
-        passTo(z, 1440);
+        Lagoons.passTo(z, 1440);
         DUE.is("record(0, 5) at 1440", z.record(0, 5), 680);
         DUE.is("record(10, 0) at 1440", z.record(10, 0), NOT_FOUND);
         z.run(1);
@@ -415,36 +395,30 @@ public final class PromisesTest {
         x.gates(4);
         x.turbines(3);
         x.pump(-7);
-        nextIs(x, "near is 40", -2720, -1020, 0, -3740, 3468, 0, 0);
+        DUE.next("near is 40", x, -2720, -1020, 0, -3740, 3468, 0, 0);
         x.set(1, 339);
-        nextIs(x, "near is 339", -2720, -1020, 0, -3740, 3468, 0, 0);
+        DUE.next("near is 339", x, -2720, -1020, 0, -3740, 3468, 0, 0);
         x.set(1, 340);
         // 7 * (20 + 340) / 100 is 25.2
-        nextIs(x, "near is 340", -2720, -1020, -7, -3747, 3468, 25, 0);
+        DUE.next("near is 340", x, -2720, -1020, -7, -3747, 3468, 25, 0);
         x.set(0, 341);
-        nextIs(x, "least head is 341", -2720, 0, -7, -2727, 0, 25, 0);
+        DUE.next("least head is 341", x, -2720, 0, -7, -2727, 0, 25, 0);
         x.set(0, 340);
-        nextIs(x, "least head is 340", -2720, -1020, -7, -3747, 3468, 25, 0);
+        DUE.next("least head is 340", x, -2720, -1020, -7, -3747, 3468, 25, 0);
         x.birds(0, 1);
-        nextIs(x, "hour of birds", 0, -1020, 0, -1020, 3468, 0, 0);
+        DUE.next("hour of birds", x, 0, -1020, 0, -1020, 3468, 0, 0);
         x.birds(1, 144);
-        nextIs(x, "no hour of birds", -2720, -1020, -7, -3747, 3468, 25, 0);
+        DUE.next("no hour of birds", x, -2720, -1020, -7, -3747, 3468, 25, 0);
         DUE.is("next passes no time", x.now(0), 0);
-        LagoonGates y = at(37);
+        LagoonGates y = Lagoons.at(37);
         y.gates(2);
         y.turbines(1);
         y.pump(500);
         y.set(1, 400);
-        nextIs(y, "into the basin", 1360, 340, 500, 2200, 1156, 1800, 44);
-        LagoonGates last = at(9999);
+        DUE.next("into the basin", y, 1360, 340, 500, 2200, 1156, 1800, 44);
+        LagoonGates last = Lagoons.at(9999);
         last.gates(1);
         DUE.is("next(0) at 9999", last.next(0), -330);
-    }
-
-    private static void nextIs(LagoonGates x, String when, int... due) {
-        for (int what = 0; what < due.length; what++) {
-            DUE.is("next(" + what + "), " + when, x.next(what), due[what]);
-        }
     }
 
     private static void promise13Would() {
@@ -472,7 +446,7 @@ public final class PromisesTest {
         DUE.is("would(300, 1) is kept", x.count(0) - made, now[1]);
         DUE.is("would(300, 2) is kept", x.count(1) - used, now[2]);
         DUE.is("would(300, 3) is kept", x.now(7), now[3]);
-        LagoonGates last = at(9999);
+        LagoonGates last = Lagoons.at(9999);
         last.gates(1);
         // The head is -165 at 9999, and the flow -330.
         DUE.is("would(1, 0) behind the last time", last.would(1, 0), -4);
@@ -492,10 +466,10 @@ public final class PromisesTest {
         DUE.is("seaAt(400)", x.seaAt(400), NOT_FOUND);
         x.run(38);
         DUE.is("seaAt(340) at 38", x.seaAt(340), 73);
-        LagoonGates y = at(112);
+        LagoonGates y = Lagoons.at(112);
         // The next day as high as day 0 is day 14, and its first high sea is at 2035.
         DUE.is("seaAt(340) at 112", y.seaAt(340), 2035 - 112);
-        LagoonGates last = at(9999);
+        LagoonGates last = Lagoons.at(9999);
         DUE.is("seaAt(340) at 9999", last.seaAt(340), 10101 - 9999);
     }
 
@@ -536,7 +510,7 @@ public final class PromisesTest {
         int[][] rows = {{201, 1, -384, 2, 25, 3, 0, -107}, {213, 7, -476, 148, 137, 99, 0, -38599},
             {249, 7, 163, 129, 124, 32, 1, -2450}};
         for (int[] row : rows) {
-            LagoonGates x = at(row[0]);
+            LagoonGates x = Lagoons.at(row[0]);
             x.turbines(6);
             x.run(1);
             x.undo();
@@ -601,13 +575,13 @@ public final class PromisesTest {
         DUE.is("bestDay() without a record", x.bestDay(), NOT_FOUND);
         x.run(1);
         DUE.is("bestDay() of one day", x.bestDay(), 0);
-        passTo(x, 300);
+        Lagoons.passTo(x, 300);
         DUE.is("bestDay() of days alike", x.bestDay(), 0);
         x.turbines(1);
         x.run(20);
         x.turbines(0);
         DUE.is("bestDay() behind turbines", x.bestDay(), 2);
-        passTo(x, 144 * 12);
+        Lagoons.passTo(x, 144 * 12);
         DUE.is("bestDay() while it is kept", x.bestDay(), 2);
         x.run(1);
         DUE.is("bestDay() when it has gone", x.bestDay(), 3);
@@ -630,7 +604,7 @@ public final class PromisesTest {
             y.run(29);
             DUE.is("share() with the pump " + pump, y.share(), bitsOf(y.count(1), y.count(0)));
         }
-        LagoonGates one = at(18);
+        LagoonGates one = Lagoons.at(18);
         one.set(0, 1);
         one.turbines(1);
         // The head is -10, and 10 * 10 / 100 is made.
@@ -683,14 +657,14 @@ public final class PromisesTest {
         DUE.is("count(4)", x.count(4), 1);
         DUE.is("count(7)", x.count(7), 1);
         DUE.is("count(8)", x.count(8), 4);
-        type(x, "g1");
+        Lagoons.type(x, "g1");
         DUE.is("count(9)", x.count(9), 2);
         DUE.is("count(20)", x.count(20), 120);
         DUE.is("count(21)", x.count(21), 340);
         DUE.is("count(22)", x.count(22), 1500);
         int[][] records = {{143, 1}, {144, 1}, {145, 2}, {1296, 9}, {1297, 10}, {1440, 10}, {1441, 10}, {9999, 10}};
         for (int[] row : records) {
-            DUE.is("count(7) at " + row[0], at(row[0]).count(7), row[1]);
+            DUE.is("count(7) at " + row[0], Lagoons.at(row[0]).count(7), row[1]);
         }
     }
 
@@ -732,9 +706,9 @@ public final class PromisesTest {
         y.undo();
         DUE.is("silt of before", y.now(7), 108);
         DUE.is("dredged of before", y.count(4), 0);
-        type(y, "g2;");
+        Lagoons.type(y, "g2;");
         y.play();
-        type(y, "g2;t1");
+        Lagoons.type(y, "g2;t1");
         DUE.is("undo() of play", y.undo(), 3);
         DUE.is("the text stays", y.count(9), 5);
         DUE.is("gates of before play", y.now(8), 8);
@@ -760,19 +734,19 @@ public final class PromisesTest {
     private static void promise22ClearText() {
         LagoonGates x = new LagoonGates();
         DUE.is("clearText() of none", x.clearText(), 0);
-        type(x, "g9;");
+        Lagoons.type(x, "g9;");
         DUE.is("clearText()", x.clearText(), 3);
         DUE.is("length", x.count(9), 0);
         DUE.is("fault of no text", x.fault(0), NOT_FOUND);
         DUE.is("clearText() again", x.clearText(), 0);
         DUE.is("clearText is no change", x.count(8), 0);
-        type(x, "t1;");
+        Lagoons.type(x, "t1;");
         x.play();
         DUE.is("a text behind it", x.now(9), 1);
     }
 
     private static void faultIs(LagoonGates x, String orders, int place, int reason, int cause) {
-        type(x, orders);
+        Lagoons.type(x, orders);
         DUE.is("fault(0) of " + orders, x.fault(0), place);
         DUE.is("fault(1) of " + orders, x.fault(1), reason);
         DUE.is("fault(2) of " + orders, x.fault(2), cause);
@@ -785,7 +759,7 @@ public final class PromisesTest {
     }
 
     private static void faultless(LagoonGates x, String orders) {
-        type(x, orders);
+        Lagoons.type(x, orders);
         for (int what = 0; what < 3; what++) {
             DUE.is("fault(" + what + ") of " + orders, x.fault(what), NOT_FOUND);
         }
@@ -809,7 +783,7 @@ public final class PromisesTest {
             faultIs(new LagoonGates(), "g1;b1,2;" + broken[i], 8, 1, breaks[i]);
         }
         // Digits that a longer text left behind the end do not count.
-        type(x, "g1;");
+        Lagoons.type(x, "g1;");
         faultIs(x, "g", 0, 1, 1);
         faultIs(x, "g1;x;g9;", 3, 1, 0);
     }
@@ -822,7 +796,7 @@ public final class PromisesTest {
             faultIs(new LagoonGates(), "r1;" + order + "x", 3, 2, INVALID);
         }
         faultIs(x, "g9;x", 0, 2, INVALID);
-        LagoonGates late = at(9700);
+        LagoonGates late = Lagoons.at(9700);
         faultless(late, "r299;");
         faultIs(late, "r300;", 0, 2, LIMIT);
         faultIs(late, "r301;", 0, 2, INVALID);
@@ -832,15 +806,15 @@ public final class PromisesTest {
         DUE.is("fault does nothing", late.now(0) * 10 + late.now(8), 97000);
         DUE.is("fault is no change", x.count(8), 0);
         // 12 orders of 300 ticks end at 3600, which is possible from 6399 on the latest.
-        faultless(at(6399), "r300;r300;r300;r300;r300;r300;r300;r300;r300;r300;r300;r300;");
-        faultIs(at(6400), "r300;r300;r300;r300;r300;r300;r300;r300;r300;r300;r300;r300;", 55, 2, LIMIT);
+        faultless(Lagoons.at(6399), "r300;r300;r300;r300;r300;r300;r300;r300;r300;r300;r300;r300;");
+        faultIs(Lagoons.at(6400), "r300;r300;r300;r300;r300;r300;r300;r300;r300;r300;r300;r300;", 55, 2, LIMIT);
     }
 
     private static void promise24Play() {
         LagoonGates x = new LagoonGates();
         DUE.is("play() of no orders", x.play(), 0);
         DUE.is("play() of no orders is a change", x.count(8), 1);
-        type(x, "g4;t6;r1;q7;b2,9;");
+        Lagoons.type(x, "g4;t6;r1;q7;b2,9;");
         DUE.is("play()", x.play(), 5);
         DUE.is("one change", x.count(8), 2);
         DUE.is("water", x.now(6), 35240);
@@ -858,16 +832,16 @@ public final class PromisesTest {
         DUE.is("all of play is undone", x.now(6), 40000);
         DUE.is("gates are undone", x.now(8), 0);
         DUE.is("pump is undone", x.now(10), 0);
-        type(x, "p12;g0;");
+        Lagoons.type(x, "p12;g0;");
         DUE.is("play() of a pump", x.play(), 2);
         DUE.is("pump into the basin", x.now(10), 12);
-        type(x, "g1;g1;g1;g1;g1;g1;g1;g1;g1;g1;g1;g1;g1;g1;g1;g1;g1;g1;g1;g2;");
+        Lagoons.type(x, "g1;g1;g1;g1;g1;g1;g1;g1;g1;g1;g1;g1;g1;g1;g1;g1;g1;g1;g1;g2;");
         DUE.is("play() of most orders", x.play(), 20);
         DUE.is("the last of them", x.now(8), 2);
 
         LagoonGates once = new LagoonGates();
         LagoonGates called = new LagoonGates();
-        type(once, "g3;r200;t4;b10,99;r300;q20;r77;");
+        Lagoons.type(once, "g3;r200;t4;b10,99;r300;q20;r77;");
         once.play();
         called.gates(3);
         called.run(200);
@@ -892,7 +866,7 @@ public final class PromisesTest {
             x.gates(8);
             x.run(1);
             x.turbines(2);
-            type(x, "g3;t1;r200;g9;");
+            Lagoons.type(x, "g3;t1;r200;g9;");
             x.would(100, 0);
             x.best(50, 0);
             x.gatesFor(50, 0);
